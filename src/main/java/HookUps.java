@@ -1215,20 +1215,23 @@ public final class HookUps {
             int least = ENDLESS;
             for (int towns = needed; towns < 1 << told.towns && least > 0; towns++) {
                 if ((towns & needed) == needed) {
-                    least = Math.min(least, lightestTree(told, towns));
+                    least = Math.min(least, lightestTree(told, towns, least));
                 }
             }
             return least == ENDLESS ? NONE : least % BITS;
         }
 
-        /** The weight of the lightest tree on just these TOWNS, by taking the lightest WIRE that joins two parts. */
-        private int lightestTree(Told told, int towns) {
+        /**
+         * The weight of the lightest tree on just these TOWNS, by taking again and again the lightest WIRE that
+         * joins two parts; ENDLESS if there is none below the limit.
+         */
+        private int lightestTree(Told told, int towns, int limit) {
             for (int town = 0; town < MOST_TOWNS; town++) {
                 parts[town] = 1 << town;
             }
             int weight = 0;
             int grown = towns & -towns;
-            for (int k = 0; k < told.wires.size() && grown != towns; k++) {
+            for (int k = 0; k < told.wires.size() && grown != towns && weight < limit; k++) {
                 int number = order[k];
                 Wire wire = told.wires.get(number);
                 int ends = 1 << wire.a | 1 << wire.b;

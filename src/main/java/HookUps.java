@@ -223,14 +223,15 @@ public final class HookUps {
     }
 
     public int contract(int network) {
+        int length = told.tapeLength;
+        told.tapeLength = 0;
         told.fault = 0;
         told.faultPlace = NONE;
         if (!isNetwork(network)) {
             return NO_SUCH;
         }
-        reader.split(told.tape, told.tapeLength);
+        reader.split(told.tape, length);
         reader.readText();
-        told.tapeLength = 0;
         if (reader.fault != 0) {
             told.fault = reader.fault;
             told.faultPlace = reader.faultPlace;

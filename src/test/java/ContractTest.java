@@ -63,9 +63,16 @@ public final class ContractTest {
         Due.due("contract(3)", x.contract(3), -2);
         Due.due("no fault", x.fault(0), 0);
         Due.due("no place", x.fault(1), -1);
+        Due.due("the tape is empty then", x.end(1), -1);
+        Due.due("contract(2) of the empty tape", x.contract(2), 0);
+        Due.type(x, "bad");
         Due.due("contract(-1)", x.contract(-1), -2);
-        Due.due("no text is read", x.end(6), 6);
-        Due.due("contract(2)", x.contract(2), 1);
+        Due.due("no text is read", x.fault(0), 0);
+        Due.due("the tape is empty then", x.feed(0, 0, 0, 0, 0), 20);
+        Due.due("contract(max)", x.contract(Integer.MAX_VALUE), -2);
+        Due.due("contract(min)", x.contract(Integer.MIN_VALUE), -2);
+        Due.due("the CONTRACT stays", x.count(10), 2);
+        Due.due("contract(2)", Due.contract(x, 2, "clear;"), 1);
         Due.due("contract of nothing", x.contract(0), 0);
         Due.due("LINES", x.count(10), 0);
         Due.due("of the other", x.count(12), 1);

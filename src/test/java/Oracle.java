@@ -252,18 +252,19 @@ final class Oracle {
     int contract(int network) {
         b.fault = 0;
         b.faultPlace = -1;
+        String tape = b.tape;
+        b.tape = "";
         if (!in(network, 0, 2)) {
             return -2;
         }
         List<String> tokens = new ArrayList<>();
         List<Integer> places = new ArrayList<>();
-        Matcher m = TOKEN.matcher(b.tape);
+        Matcher m = TOKEN.matcher(tape);
         while (m.find()) {
             tokens.add(m.group());
             places.add(m.start());
         }
-        places.add(b.tape.length());
-        b.tape = "";
+        places.add(tape.length());
         StringBuilder signs = new StringBuilder();
         for (int k = 0; k < tokens.size(); k++) {
             signs.append(sign(tokens.get(k)));

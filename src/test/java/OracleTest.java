@@ -196,6 +196,7 @@ public final class OracleTest {
         due("contract '" + text + "'", x.contract(network), o.contract(network));
         due("fault(0) '" + text + "'", x.fault(0), o.fault(0));
         due("fault(1) '" + text + "'", x.fault(1), o.fault(1));
+        due("the tape behind it", x.end(1), o.end(1));
     }
 
     private void tell() {

@@ -18,6 +18,10 @@ final class Due {
         due(call, got ? 1 : 0, want ? 1 : 0);
     }
 
+    static int asked() {
+        return asked;
+    }
+
     static void finish() {
         System.out.println(asked + " answers, " + wrong + " wrong");
         if (wrong != 0) {

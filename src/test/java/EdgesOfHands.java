@@ -241,6 +241,26 @@ final class EdgesOfHands extends Edge {
         sold(y, 1, 1, 4);
         dueChange(y, 0, 1, 2, 2);
         dueSeconds(y, 1, 10, 5, 5);
+        // One CIRCUIT is free at once, the others as one and one more are PULLED.
+        dueFilled(2, 8, 5, 5);
+        dueFilled(3, 13, 7, 5);
+    }
+
+    /** A WIRE with all CIRCUITS but one taken, whose PLUGS are PULLED, and as many PUT as there are CIRCUITS. */
+    private static void dueFilled(int circuits, int... seconds) {
+        HookUps x = star(2, circuits);
+        for (int station = 2; station <= circuits; station++) {
+            x.station(1, 0, 1);
+            x.join(station, 0, 0);
+        }
+        for (int station = 1; station <= circuits; station++) {
+            if (station < circuits) {
+                sold(x, 0, 1, 1 << station);
+            }
+            sold(x, 1, 1, 1 << station);
+        }
+        dueChange(x, 0, 1, circuits - 1, circuits);
+        dueSeconds(x, 1, seconds);
     }
 
     private static void t3LeastOfAllOrders() {

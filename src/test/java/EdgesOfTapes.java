@@ -400,6 +400,7 @@ final class EdgesOfTapes extends Edge {
         faulty("clear;\n\n nonsense;", 1, 9);
         faulty(times(" ", 499) + "!", 1, 499);
         faulty(times(" ", 492) + "nonsense", 1, 492);
+        faulty(times(" ", 496) + "clea", 1, 496);
     }
 
     private static void t2PlaceOfTheEnd() {
